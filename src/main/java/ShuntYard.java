@@ -908,22 +908,21 @@ public final class ShuntYard {
             wantedOutermost[track] = outermost;
         }
 
+        /**
+         * Each other track with wanted wagons sends once, the target too if others stand on it. If
+         * no track sends twice, a wagon takes along for good what stands outside of it; so where
+         * that must not be, one move more is needed.
+         */
         private int movesNeededFor(int target) {
-            int otherTracks = 0;
-            boolean buried = false;
+            int senders = wantedInnermost[target] < trial.length[target] ? 1 : 0;
+            boolean mixed = wantedInnermost[target] < wanted[target];
             for (int track = 0; track < trial.tracks; track++) {
                 if (track != target && wanted[track] > 0) {
-                    otherTracks++;
-                    buried = buried || wantedOutermost[track] < wanted[track];
+                    senders++;
+                    mixed = mixed || wantedOutermost[track] < wanted[track];
                 }
             }
-            if (wantedInnermost[target] < trial.length[target]) {
-                // Others leave the target, and what is wanted outside of them must come back.
-                boolean comesBack = wanted[target] > wantedInnermost[target];
-                return 1 + Math.max(otherTracks, comesBack ? 1 : 0);
-            }
-            // One move can't fetch wagons with others outside of them and leave those others behind.
-            return otherTracks == 1 && buried ? 2 : otherTracks;
+            return mixed ? senders + 1 : senders;
         }
     }
 }

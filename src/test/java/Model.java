@@ -421,18 +421,20 @@ final class Model {
         if (most < 0 || most > 3 || what < 0 || what > 4) {
             return BAD;
         }
+        return cheapest(most)[what];
+    }
+
+    /** The answers for what 0 to 4 by one search. */
+    int[] cheapest(int most) {
         Row row = cheapestRow(most);
         if (row == null) {
-            return NONE;
-        }
-        if (what < 2) {
-            return what == 0 ? row.minutes() : row.moves().size();
+            return new int[] {NONE, NONE, NONE, NONE, NONE};
         }
         if (row.moves().isEmpty()) {
-            return NONE;
+            return new int[] {0, 0, NONE, NONE, NONE};
         }
         Move first = row.moves().get(0);
-        return what == 2 ? first.from() : what == 3 ? first.to() : first.n();
+        return new int[] {row.minutes(), row.moves().size(), first.from(), first.to(), first.n()};
     }
 
     int undo() {

@@ -91,7 +91,9 @@ public final class RandomRunsTest {
     private void stepAside(int what) {
         if (what < 84) {
             int setting = about(0, 3);
-            int value = setting == 1 ? about(10, 60) : setting == 2 ? about(1, 20) : about(0, setting == 0 ? 3 : 30);
+            int value = setting == 0 ? about(0, 3)
+                    : setting == 1 ? (dice.nextBoolean() ? about(10, 60) : about(10, 600))
+                    : setting == 2 ? (dice.nextBoolean() ? about(1, 2) : about(1, 20)) : about(0, 30);
             due("set", yard.set(setting, value), model.set(setting, value), setting, value);
         } else if (what < 87) {
             int minutes = dice.nextInt(3) == 0 ? about(1, 1000) : about(1, 30);
