@@ -839,28 +839,24 @@ public final class ShuntYard {
                 return;
             }
             for (int from = 0; from < trial.tracks; from++) {
+                int standing = trial.length[from];
                 for (int to = 0; to < trial.tracks; to++) {
-                    seekBehindMoves(from, to, movesLeft);
+                    for (int n = 1; n <= standing; n++) {
+                        int cost = trial.costOrCode(from, to, n);
+                        if (cost >= 0) {
+                            seekBehindMove(from, to, n, cost, movesLeft);
+                        }
+                    }
                 }
             }
         }
 
-        private void seekBehindMoves(int from, int to, int movesLeft) {
-            if (from == to) {
-                return;
-            }
-            int greatest = Math.min(trial.length[from], trial.capacity - trial.length[to]);
-            for (int n = 1; n <= greatest; n++) {
-                int cost = trial.costOrCode(from, to, n);
-                if (cost < 0) {
-                    continue;
-                }
-                trial.shift(from, to, n);
-                row.addLast(from, to, n, cost);
-                seek(movesLeft - 1);
-                row.dropLast(cost);
-                trial.shift(to, from, n);
-            }
+        private void seekBehindMove(int from, int to, int n, int cost, int movesLeft) {
+            trial.shift(from, to, n);
+            row.addLast(from, to, n, cost);
+            seek(movesLeft - 1);
+            row.dropLast(cost);
+            trial.shift(to, from, n);
         }
 
         /** Rows come in the order that the document asks for among equals, so the first one stays. */
