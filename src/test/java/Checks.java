@@ -47,7 +47,8 @@ final class Checks {
     /** The wagons of a track from the buffer on, in the form "0A 1Bf 2Cx". */
     static String standing(ShuntYard yard, int track) {
         StringBuilder row = new StringBuilder();
-        for (int place = 0; place < yard.track(track, 0); place++) {
+        int wagons = yard.track(track, 0);
+        for (int place = 0; place < wagons; place++) {
             row.append(place == 0 ? "" : " ").append(yard.wagon(track, place, 0));
             row.append((char) ('A' + yard.wagon(track, place, 1)));
             row.append(new String[] {"", "f", "x"}[yard.wagon(track, place, 2)]);
