@@ -61,8 +61,8 @@ public final class ConventionsTest extends Edges {
     }
 
     private static void badComesBeforeState() {
-        due("arrive with a fault", after(ShuntYard::new, x -> x.write('?')).get().arrive(3), BAD);
-        due("arrive of what is never safe", after(ShuntYard::new, x -> Checks.arrive(x, 0, "Af Ax")).get().arrive(-1), BAD);
+        due("arrive with a fault", arrive(new ShuntYard(), 3, "?"), BAD);
+        due("arrive of what is never safe", arrive(new ShuntYard(), -1, "Af Ax"), BAD);
         ShuntYard x = new ShuntYard();
         due("move from a track on which none stands", x.move(0, 3, 1), BAD);
         due("move of too many, where none stands", x.move(0, 1, 9), BAD);
@@ -86,15 +86,11 @@ public final class ConventionsTest extends Edges {
         due("move of too many to a full track", x.move(0, 1, 9), BAD);
         due("cost of none to a full track", x.cost(0, 1, 0), BAD);
         due("arrive on no track", arrive(x, 2, "8A"), BAD);
-        ShuntYard full = after(ShuntYard::new, y -> fillText(y)).get();
+        ShuntYard full = new ShuntYard();
+        put(full, times(60, " "));
         due("write of no byte into a full text", full.write(31), BAD);
         due("write of no byte into a full text", full.write(127), BAD);
         due("write into a full text", full.write(32), FULL);
-    }
-
-    private static int fillText(ShuntYard x) {
-        put(x, times(60, " "));
-        return 0;
     }
 
     private static void stateComesBeforeFull() {

@@ -133,7 +133,8 @@ abstract class Edges {
 
     private static String textOf(ShuntYard x) {
         x.begin(4, 8);
-        String all = x.told(13) + " bytes; wagons " + x.arrive(0) + " " + Checks.standing(x, 0) + "; trains " + x.list();
+        String all = x.told(13) + " bytes; wagons " + x.arrive(0) + " " + Checks.standing(x, 0);
+        all += "; trains " + x.list();
         for (int k = 0; k < x.told(4); k++) {
             all += " " + x.train(k);
         }

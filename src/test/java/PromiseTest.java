@@ -1,8 +1,6 @@
 /** Each promise of the document: ordinary calls, the edges that it names, and wrong arguments. */
-public final class PromiseTest {
-    private static final int BAD = -1, STATE = -2, FULL = -3, NONE = -9;
-    private static final int[] WRONG = {-1, Integer.MIN_VALUE, Integer.MAX_VALUE};
-    private static final Checks C = new Checks();
+public final class PromiseTest extends Edges {
+    private static final int[] WRONG = {-1, LEAST_INT, GREATEST_INT};
 
     private PromiseTest() {
     }
@@ -38,20 +36,8 @@ public final class PromiseTest {
         C.close();
     }
 
-    private static void put(ShuntYard x, String text) {
-        Checks.put(x, text);
-    }
-
-    private static int arrive(ShuntYard x, int track, String text) {
-        return Checks.arrive(x, track, text);
-    }
-
-    private static int list(ShuntYard x, String text) {
-        return Checks.list(x, text);
-    }
-
-    /** A yard with a text of wagons on each track. */
-    private static ShuntYard yardOf(int capacity, String... tracks) {
+    /** A yard with a text of wagons on each track, by one change for each and one for begin. */
+    private static ShuntYard filledYard(int capacity, String... tracks) {
         ShuntYard x = new ShuntYard();
         x.begin(tracks.length, capacity);
         fill(x, tracks);
@@ -64,7 +50,7 @@ public final class PromiseTest {
         }
     }
 
-    private static void dueTold(String when, ShuntYard x, int... wants) {
+    private static void dueAllTold(String when, ShuntYard x, int... wants) {
         for (int what = 0; what < wants.length; what++) {
             C.due(when + ": told(" + what + ")", x.told(what), wants[what]);
         }
@@ -72,7 +58,7 @@ public final class PromiseTest {
 
     // what is told of a yard before anything came; changes: the undo count
     private static void dueEmpty(String when, ShuntYard x, int tracks, int capacity, int reason, int changes) {
-        dueTold(when, x, tracks, capacity, 0, 0, 0, 0, 0, 0, 0, 0, 0, reason, NONE, 0, changes);
+        dueAllTold(when, x, tracks, capacity, 0, 0, 0, 0, 0, 0, 0, 0, 0, reason, NONE, 0, changes);
         C.dueFloat(when + ": mean()", x.mean(), 0.0f);
     }
 
@@ -119,7 +105,7 @@ public final class PromiseTest {
     }
 
     private static void beginForgetsTheYardOnly() {
-        ShuntYard x = yardOf(8, "2A", "B", "");
+        ShuntYard x = filledYard(8, "2A", "B", "");
         C.due("depart with reason", x.depart(0), STATE);
         x.set(0, 2);
         list(x, "AB");
@@ -175,7 +161,7 @@ public final class PromiseTest {
         x.undo();
         C.due("undone set", x.setting(3), 0);
 
-        ShuntYard y = yardOf(6, "Af B Ax", "");
+        ShuntYard y = filledYard(6, "Af B Ax", "");
         C.due("set to the same is a change", y.set(0, 1), 1);
         C.due("changes", y.told(14), 4);
         C.due("safe", y.told(5), 0);
@@ -207,7 +193,7 @@ public final class PromiseTest {
         C.due("wagons in the yard", x.told(3), 7);
         C.due("wagons that came", x.told(10), 7);
 
-        ShuntYard y = yardOf(8, "8A", "");
+        ShuntYard y = filledYard(8, "8A", "");
         C.due("gap seen beyond the places", arrive(y, 0, "6A Af Ax"), STATE);
         C.due("safe, but too many", arrive(y, 0, "8A"), FULL);
         C.due("eight of eight", y.track(0, 0), 8);
@@ -216,7 +202,7 @@ public final class PromiseTest {
     }
 
     private static void arriveAtAGap() {
-        ShuntYard x = yardOf(8, "Af", "Ax", "");
+        ShuntYard x = filledYard(8, "Af", "Ax", "");
         C.due("explosives behind fuel", arrive(x, 0, "Bx"), STATE);
         C.due("fuel behind explosives", arrive(x, 1, "Bf"), STATE);
         C.due("fuel behind fuel", arrive(x, 0, "Bf"), 2);
@@ -230,7 +216,7 @@ public final class PromiseTest {
     }
 
     private static void arriveAndBrakes() {
-        ShuntYard x = yardOf(8, "2A", "");
+        ShuntYard x = filledYard(8, "2A", "");
         x.test(0);
         C.due("holds", x.track(0, 2), 120);
         arrive(x, 0, " ");
@@ -330,7 +316,7 @@ public final class PromiseTest {
     }
 
     private static void p6Move() {
-        ShuntYard x = yardOf(6, "A B C D", "E", "", "");
+        ShuntYard x = filledYard(6, "A B C D", "E", "", "");
         C.due("three wagons", x.move(0, 1, 3), 4 + 3 + 2);
         C.dueStanding("in the same order", x, 1, "4E 1B 2C 3D");
         C.dueStanding("one stays", x, 0, "0A");
@@ -354,30 +340,30 @@ public final class PromiseTest {
     }
 
     private static void moveToAFullTrack() {
-        ShuntYard x = yardOf(3, "3A", "2B");
+        ShuntYard x = filledYard(3, "3A", "2B");
         C.due("too many", x.move(0, 1, 2), FULL);
         C.due("not so many before FULL", x.move(0, 1, 4), STATE);
         C.due("full", x.move(0, 1, 1), 7);
         C.due("none more", x.move(0, 1, 1), FULL);
-        ShuntYard y = yardOf(3, "A Bf", "2B Bx");
+        ShuntYard y = filledYard(3, "A Bf", "2B Bx");
         C.due("not safe before FULL", y.move(0, 1, 1), STATE);
         C.due("FULL with a gap", y.move(0, 1, 2), FULL);
-        ShuntYard z = yardOf(8, "8A", "8A");
+        ShuntYard z = filledYard(8, "8A", "8A");
         C.due("eight more", z.move(0, 1, 8), FULL);
     }
 
     private static void moveDangerousOnes() {
-        ShuntYard x = yardOf(8, "A Bx C", "Df", "");
+        ShuntYard x = filledYard(8, "A Bx C", "Df", "");
         C.due("a common one of them", x.move(0, 2, 1), 4 + 1 + 4);
         C.due("explosives", x.move(0, 2, 1), 4 + 1 + 4 + 5);
-        C.due("two explosives cost 5 once", yardOf(8, "2Ax", "").move(0, 1, 2), 4 + 2 + 2 + 5);
-        C.due("the inner one has explosives", yardOf(8, "Ax A", "").move(0, 1, 2), 4 + 2 + 2 + 5);
-        C.due("fuel costs no more", yardOf(8, "Af", "").move(0, 1, 1), 4 + 1 + 2);
+        C.due("two explosives cost 5 once", filledYard(8, "2Ax", "").move(0, 1, 2), 4 + 2 + 2 + 5);
+        C.due("the inner one has explosives", filledYard(8, "Ax A", "").move(0, 1, 2), 4 + 2 + 2 + 5);
+        C.due("fuel costs no more", filledYard(8, "Af", "").move(0, 1, 1), 4 + 1 + 2);
         C.due("explosives to fuel", x.move(2, 1, 1), STATE);
         C.due("with a common one between", x.move(0, 1, 1), 7);
         C.due("then it goes", x.move(2, 1, 1), 4 + 1 + 2 + 5);
 
-        ShuntYard y = yardOf(8, "Af B Ax C", "", "D");
+        ShuntYard y = filledYard(8, "Af B Ax C", "", "D");
         y.set(0, 2);
         C.due("what stays is not safe", y.move(0, 1, 1), STATE);
         C.due("what comes is not safe", y.move(0, 1, 4), STATE);
@@ -388,7 +374,7 @@ public final class PromiseTest {
     }
 
     private static void moveAndBrakes() {
-        ShuntYard x = yardOf(8, "3A", "B", "C");
+        ShuntYard x = filledYard(8, "3A", "B", "C");
         x.test(0);
         x.test(1);
         x.test(2);
@@ -399,7 +385,7 @@ public final class PromiseTest {
     }
 
     private static void p7Test() {
-        ShuntYard x = yardOf(6, "3A", "B", "");
+        ShuntYard x = filledYard(6, "3A", "B", "");
         C.due("three wagons", x.test(0), 5 + 6);
         C.due("the clock", x.told(2), 11);
         C.due("from its end on", x.track(0, 2), 120);
@@ -421,7 +407,7 @@ public final class PromiseTest {
     }
 
     private static void testRunsOut() {
-        ShuntYard x = yardOf(6, "A", "");
+        ShuntYard x = filledYard(6, "A", "");
         list(x, "A");
         x.test(0);
         x.pause(119);
@@ -460,7 +446,7 @@ public final class PromiseTest {
     }
 
     private static void p9Depart() {
-        ShuntYard x = yardOf(6, "2A", "A B", "");
+        ShuntYard x = filledYard(6, "2A", "A B", "");
         dueRefused("no list", x, 2, 1);
         list(x, "AB");
         dueRefused("an empty track", x, 2, 2);
@@ -496,13 +482,13 @@ public final class PromiseTest {
     }
 
     private static void departNotSafe() {
-        ShuntYard x = yardOf(6, "Af A Ax", "A");
+        ShuntYard x = filledYard(6, "Af A Ax", "A");
         list(x, "A");
         x.set(0, 3);
         dueRefused("one elsewhere before not safe", x, 0, 4);
         arrive(x, 1, "B");
         dueRefused("another before one elsewhere", x, 1, 3);
-        ShuntYard y = yardOf(6, "Af A Ax", "");
+        ShuntYard y = filledYard(6, "Af A Ax", "");
         list(y, "A");
         y.set(0, 3);
         dueRefused("not safe before no test", y, 0, 5);
@@ -514,7 +500,7 @@ public final class PromiseTest {
     }
 
     private static void departInOrder() {
-        ShuntYard x = yardOf(6, "A", "B", "C");
+        ShuntYard x = filledYard(6, "A", "B", "C");
         list(x, "CAB");
         x.test(0);
         x.test(1);
@@ -530,7 +516,7 @@ public final class PromiseTest {
     }
 
     private static void p10MakeUp() {
-        ShuntYard x = yardOf(6, "A B A", "A", "");
+        ShuntYard x = filledYard(6, "A B A", "A", "");
         C.due("empty list", x.makeUp(3), STATE);
         list(x, "AB");
         for (int wrong : new int[] {-1, 4, Integer.MIN_VALUE, Integer.MAX_VALUE}) {
@@ -558,7 +544,7 @@ public final class PromiseTest {
         list(x, "C");
         C.due("no wagon of it", x.makeUp(3), STATE);
 
-        ShuntYard y = yardOf(6, "A", "A", "B");
+        ShuntYard y = filledYard(6, "A", "A", "B");
         list(y, "A");
         y.test(0);
         y.test(1);
@@ -584,7 +570,7 @@ public final class PromiseTest {
         C.due("no more", x.undo(), STATE);
         C.due("the clock stays", x.told(2), clock);
 
-        ShuntYard y = yardOf(6, "A Bf", "", "", "");
+        ShuntYard y = filledYard(6, "A Bf", "", "", "");
         list(y, "A");
         y.depart(0);
         put(y, "Q");
@@ -662,7 +648,7 @@ public final class PromiseTest {
     }
 
     private static void p15Told() {
-        ShuntYard x = yardOf(7, "Af B Ax", "2A", "", "C");
+        ShuntYard x = filledYard(7, "Af B Ax", "2A", "", "C");
         for (int wrong : new int[] {-1, 15, Integer.MIN_VALUE, Integer.MAX_VALUE}) {
             C.due("told(" + wrong + ")", x.told(wrong), BAD);
         }
@@ -672,14 +658,14 @@ public final class PromiseTest {
         x.set(0, 3);
         x.move(1, 2, 1);
         x.depart(1);
-        dueTold("told", x, 4, 7, 7 + 7, 5, 2, 1, 1, 7, 1, 1, 6, 4, NONE, 3, 8);
+        dueAllTold("told", x, 4, 7, 7 + 7, 5, 2, 1, 1, 7, 1, 1, 6, 4, NONE, 3, 8);
         x.set(0, 1);
-        dueTold("told", x, 4, 7, 7 + 7, 5, 2, 0);
+        dueAllTold("told", x, 4, 7, 7 + 7, 5, 2, 0);
         madeUpIsTold();
     }
 
     private static void madeUpIsTold() {
-        ShuntYard x = yardOf(6, "2A", "B", "A", "");
+        ShuntYard x = filledYard(6, "2A", "B", "A", "");
         C.due("no list", x.told(12), NONE);
         list(x, "AB");
         C.due("on two tracks", x.told(12), NONE);
@@ -695,7 +681,7 @@ public final class PromiseTest {
         C.due("behind others", x.told(12), NONE);
         list(x, "C");
         C.due("none of it", x.told(12), NONE);
-        ShuntYard y = yardOf(6, "Af A Ax", "");
+        ShuntYard y = filledYard(6, "Af A Ax", "");
         list(y, "A");
         y.set(0, 3);
         C.due("made up, though not safe", y.told(12), 0);
@@ -712,7 +698,7 @@ public final class PromiseTest {
     }
 
     private static void p17Track() {
-        ShuntYard x = yardOf(8, "Af 2A Bx C Bf", "2Af B Cf", "");
+        ShuntYard x = filledYard(8, "Af 2A Bx C Bf", "2Af B Cf", "");
         int[][] wants = {{6, 1, 0, 1, 1}, {4, 1, 0, NONE, 1}, {0, 1, 0, NONE, 1}};
         for (int track = 0; track < 3; track++) {
             for (int what = 0; what < 5; what++) {
@@ -740,23 +726,23 @@ public final class PromiseTest {
 
     private static void gapsAreCountedBetweenNeighbours() {
         // The fuel behind the fuel is nearer to the explosives; only it counts.
-        ShuntYard x = yardOf(8, "Af A Af 3A Ax", "Ax 2A Ax 3A Af");
+        ShuntYard x = filledYard(8, "Af A Af 3A Ax", "Ax 2A Ax 3A Af");
         C.due("three", x.track(0, 3), 3);
         C.due("three", x.track(1, 3), 3);
         x.set(0, 3);
         C.due("both safe", x.told(5), 0);
-        ShuntYard y = yardOf(8, "Af 3A Ax 2A Af", "");
+        ShuntYard y = filledYard(8, "Af 3A Ax 2A Af", "");
         C.due("the lesser one behind", y.track(0, 3), 2);
         y.set(0, 2);
         C.due("as many as the gap", y.track(0, 1), 1);
         y.set(0, 3);
         C.due("fewer", y.track(0, 1), 0);
-        ShuntYard z = yardOf(8, "3A Ax 3A", "");
+        ShuntYard z = filledYard(8, "3A Ax 3A", "");
         C.due("one alone", z.track(0, 3), NONE);
     }
 
     private static void p18Wagon() {
-        ShuntYard x = yardOf(6, "A 2Ff", "Cx", "");
+        ShuntYard x = filledYard(6, "A 2Ff", "Cx", "");
         int[][] wants = {{0, 0, 0}, {1, 5, 1}, {2, 5, 1}};
         for (int place = 0; place < 3; place++) {
             for (int what = 0; what < 3; what++) {
@@ -796,7 +782,7 @@ public final class PromiseTest {
     }
 
     private static void p20Find() {
-        ShuntYard x = yardOf(6, "2A", "B C", "");
+        ShuntYard x = filledYard(6, "2A", "B C", "");
         C.due("track of 3", x.find(3, 0), 1);
         C.due("place of 3", x.find(3, 1), 1);
         C.due("track of 0", x.find(0, 0), 0);
@@ -820,7 +806,7 @@ public final class PromiseTest {
     }
 
     private static void p21Mean() {
-        ShuntYard x = yardOf(6, "6A", "", "");
+        ShuntYard x = filledYard(6, "6A", "", "");
         C.dueFloat("none", x.mean(), 0.0f);
         x.move(0, 1, 1);
         C.dueFloat("one", x.mean(), 7.0f);
@@ -839,14 +825,15 @@ public final class PromiseTest {
     }
 
     private static void p22Cost() {
-        ShuntYard x = yardOf(4, "A Bx", "3A", "Af", "");
+        ShuntYard x = filledYard(4, "A Bx", "3A", "Af", "");
         int changes = x.told(14);
         C.due("far", x.cost(0, 3, 1), 4 + 1 + 6 + 5);
         C.due("two", x.cost(0, 3, 2), 4 + 2 + 6 + 5);
         C.due("FULL", x.cost(0, 1, 2), FULL);
         C.due("STATE, not safe", x.cost(0, 2, 1), STATE);
         C.due("STATE, too many", x.cost(0, 3, 3), STATE);
-        for (int[] wrong : new int[][] {{-1, 0, 1}, {4, 0, 1}, {0, -1, 1}, {0, 4, 1}, {1, 1, 1}, {0, 1, 0}, {0, 1, 9}}) {
+        for (int[] wrong : new int[][] {{-1, 0, 1}, {4, 0, 1}, {0, -1, 1}, {0, 4, 1}, {1, 1, 1}, {0, 1, 0},
+            {0, 1, 9}}) {
             C.due("cost " + wrong[0] + " " + wrong[1] + " " + wrong[2], x.cost(wrong[0], wrong[1], wrong[2]), BAD);
         }
         C.dueStanding("nothing moved", x, 0, "0A 1Bx");
@@ -865,7 +852,7 @@ public final class PromiseTest {
     }
 
     private static void p23Cheapest() {
-        ShuntYard x = yardOf(6, "A B A", "A", "");
+        ShuntYard x = filledYard(6, "A B A", "A", "");
         dueNoRow("empty list", x, 3);
         list(x, "A");
         for (int wrong : new int[] {-1, 4, Integer.MIN_VALUE, Integer.MAX_VALUE}) {
@@ -883,7 +870,7 @@ public final class PromiseTest {
         C.due("no change", x.told(14), changes);
         list(x, "F");
         dueNoRow("no wagon of it", x, 3);
-        ShuntYard y = yardOf(6, "B", "2A");
+        ShuntYard y = filledYard(6, "B", "2A");
         list(y, "A");
         dueCheapest("made up already", y, 0, 0, 0, NONE, NONE, NONE);
         dueCheapest("made up already", y, 3, 0, 0, NONE, NONE, NONE);
@@ -892,21 +879,21 @@ public final class PromiseTest {
     }
 
     private static void movesOfARowMustBeAllowed() {
-        ShuntYard x = yardOf(2, "2A", "A");
+        ShuntYard x = filledYard(2, "2A", "A");
         list(x, "A");
         dueNoRow("no room", x, 3);
-        ShuntYard y = yardOf(6, "Af", "Ax");
+        ShuntYard y = filledYard(6, "Af", "Ax");
         list(y, "A");
         dueNoRow("never safe", y, 3);
         y.set(0, 0);
         dueCheapest("without a gap", y, 3, 7, 1, 0, 1, 1);
-        ShuntYard z = yardOf(6, "Af", "A", "Ax");
+        ShuntYard z = filledYard(6, "Af", "A", "Ax");
         list(z, "A");
         dueCheapest("the common one between", z, 3, 15, 2, 0, 1, 1);
-        ShuntYard full = yardOf(3, "B A B", "A", "3B");
+        ShuntYard full = filledYard(3, "B A B", "A", "3B");
         list(full, "A");
         dueCheapest("the full one is left alone", full, 3, 8 + 7, 2, 0, 1, 2);
-        ShuntYard fuller = yardOf(3, "B A B", "A B", "3B");
+        ShuntYard fuller = filledYard(3, "B A B", "A B", "3B");
         list(fuller, "A");
         dueNoRow("full tracks", fuller, 3);
     }
@@ -964,7 +951,7 @@ public final class PromiseTest {
     }
 
     private static void p24Keep() {
-        ShuntYard x = yardOf(6, "2A", "B", "");
+        ShuntYard x = filledYard(6, "2A", "B", "");
         int changes = x.told(14);
         C.due("keep(0)", x.keep(0), 3);
         C.due("no change", x.told(14), changes);
@@ -991,7 +978,7 @@ public final class PromiseTest {
     }
 
     private static void p25Back() {
-        ShuntYard x = yardOf(6, "2A", "B", "");
+        ShuntYard x = filledYard(6, "2A", "B", "");
         for (int wrong : new int[] {-1, 2, Integer.MIN_VALUE, Integer.MAX_VALUE}) {
             C.due("back(" + wrong + ")", x.back(wrong), BAD);
         }
@@ -1008,7 +995,7 @@ public final class PromiseTest {
         x.begin(4, 8);
         int changes = x.told(14);
         C.due("back", x.back(1), 3);
-        dueTold("back", x, 3, 6, 9, 3, 2, 0, 0, 0, 0, 0, 3, 2, 0, 1, Math.min(8, changes + 1));
+        dueAllTold("back", x, 3, 6, 9, 3, 2, 0, 0, 0, 0, 0, 3, 2, 0, 1, Math.min(8, changes + 1));
         C.due("the fault stays", x.fault(0), 1);
         C.due("its setting", x.setting(0), 3);
         C.due("its test", x.track(0, 2), 120);
@@ -1029,7 +1016,7 @@ public final class PromiseTest {
 
     /** Each call that is refused leaves all that can be asked as it was. */
     private static void errorCodesChangeNothing() {
-        ShuntYard x = yardOf(3, "A Bf", "2B Cx", "");
+        ShuntYard x = filledYard(3, "A Bf", "2B Cx", "");
         list(x, "AB");
         x.test(0);
         x.keep(0);

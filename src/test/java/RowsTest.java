@@ -208,6 +208,14 @@ public final class RowsTest extends Edges {
             dueNoRow("no list", x, most);
         }
         dueNoRow("a new object", new ShuntYard(), 3);
+        ShuntYard alone = yardOf(6, "2A", "B");
+        dueTold("all of them alone, but no list yet", alone, 12, NONE);
+        dueNoRow("all of them alone, but no list yet", alone, 0);
+        list(alone, "A");
+        dueTold("a list", alone, 12, 0);
+        list(alone, "");
+        dueTold("no list any more", alone, 12, NONE);
+        dueNoRow("no list any more", alone, 3);
     }
 
     private static void smallestAndLargestYards() {
@@ -292,6 +300,8 @@ public final class RowsTest extends Edges {
                 0, 1, 1, 1, 2, 2, 3, 2, 1);
         dueRow("the second of three, by to", () -> yard(3, 1, 4, "Bx Af B A", "", ""), 3, 15,
                 0, 1, 3, 1, 0, 2, 0, 1, 1);
+        dueRow("the second of three, by n", () -> yard(1, 19, 4, "Ax Bf", "B Af 2A", ""), 3, 69,
+                0, 2, 1, 1, 0, 1, 1, 0, 2);
         dueRow("the third, by from", () -> yard(2, 1, 4, "A Bx Af", "", ""), 3, 19, 0, 1, 1, 0, 2, 1, 0, 1, 1);
         dueRow("the third, by to", () -> yard(0, 1, 4, "", "", "A Bf Ax"), 3, 18, 2, 1, 1, 2, 1, 2, 1, 0, 1);
     }

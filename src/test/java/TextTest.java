@@ -333,6 +333,9 @@ public final class TextTest extends Edges {
         dueFaultIs("the end", x, 2, 1);
         x.wipe();
         dueFaultIs("wiping leaves it", x, 2, 1);
+        x.arrive(0);
+        x.list();
+        dueFaultIs("a text without a fault leaves it", x, 2, 1);
         x.pause(1);
         x.undo();
         dueFaultIs("undo leaves it", x, 2, 1);

@@ -20,6 +20,7 @@ public final class TracksTest extends Edges {
         numbersAreUndone();
         destinationsAndKinds();
         clockIs0AtFirst();
+        pauseFrom1To1000();
         settingsHaveRanges();
         settingsStayBehindBegin();
         beginTellsHowManyThereWere();
@@ -29,6 +30,8 @@ public final class TracksTest extends Edges {
         everythingToldAtItsEnds();
         trainsInTheList();
         findingAtTheEnds();
+        clockOfALongRun();
+        wagonsOfALongRun();
         C.close();
     }
 
@@ -215,14 +218,21 @@ public final class TracksTest extends Edges {
     private static void clockIs0AtFirst() {
         ShuntYard x = new ShuntYard();
         dueTold("new", x, 2, 0);
+        x.pause(1);
+        dueTold("later", x, 2, 1);
+        x.begin(2, 2);
+        dueTold("begun anew", x, 2, 0);
+    }
+
+    private static void pauseFrom1To1000() {
+        ShuntYard x = new ShuntYard();
         dueEdge("the longest pause", x.pause(1000), 1000, x.pause(1001), BAD);
         dueEdge("the shortest pause", x.pause(1), 1001, x.pause(0), BAD);
         for (int wrong : new int[] {-1, -1000, LEAST_INT, GREATEST_INT}) {
             due("pause(" + wrong + ")", x.pause(wrong), BAD);
         }
-        dueTold("behind pauses", x, 2, 1001);
-        x.begin(2, 2);
-        dueTold("begun anew", x, 2, 0);
+        dueTold("two pauses", x, 2, 1001);
+        dueTold("two changes", x, 14, 2);
     }
 
     private static void settingsHaveRanges() {
@@ -368,5 +378,35 @@ public final class TracksTest extends Edges {
         due("departed", x.find(0, 0), NONE);
         due("departed", x.find(0, 1), NONE);
         due("nothing at first", new ShuntYard().find(0, 0), NONE);
+    }
+
+    /** An object is used for 512 calls at most. */
+    private static void clockOfALongRun() {
+        ShuntYard x = new ShuntYard();
+        for (int call = 1; call <= 510; call++) {
+            due("pause", x.pause(1000), 1000 * call);
+        }
+        dueTold("the call 511", x, 2, 510000);
+        due("the call 512", x.undo(), 7);
+    }
+
+    private static void wagonsOfALongRun() {
+        ShuntYard x = new ShuntYard();
+        x.begin(2, 8);
+        put(x, "A A A A A A A A");
+        int departed = 0;
+        // 17 calls up to here, and 25 each time; the last ones ask.
+        for (int turn = 0; turn < 18; turn++) {
+            due("list", x.list(), 8);
+            for (int i = 0; i < 8; i++) {
+                due("arrive", x.arrive(1), 8);
+                due("test", x.test(1), 5 + 16);
+                departed += i == 7 && turn == 17 ? 0 : x.depart(1);
+            }
+        }
+        dueTold("wagons that came", x, 10, 18 * 64);
+        dueTold("wagons that departed", x, 9, departed);
+        dueTold("trains that departed", x, 8, 18 * 8 - 1);
+        dueStanding("the last numbers", x, 1, "1144A 1145A 1146A 1147A 1148A 1149A 1150A 1151A");
     }
 }
