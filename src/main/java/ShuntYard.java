@@ -821,7 +821,12 @@ public final class ShuntYard {
             hasBest = false;
             best.clear();
             row.clear();
-            if (yard.trains == 0 || yard.forFirstInYard() == 0) {
+            if (yard.trains == 0) {
+                return false;
+            }
+            int wagons = yard.forFirstInYard();
+            // More than a track holds can never be made up; trying all rows would only tell it late.
+            if (wagons == 0 || wagons > yard.capacity) {
                 return false;
             }
             trial.copyFrom(yard);
